@@ -143,7 +143,10 @@ public final class ModelTest {
         } else if (which == 1) {
             letter(near(1, 126));
         } else if (which == 2) {
-            due("flatten()", x.flatten(), m.flatten());
+            // more than one in a row, so that CREDIT comes below 0 at times
+            for (int i = any(0, 6); i >= 0; i--) {
+                due("flatten()", x.flatten(), m.flatten());
+            }
         } else if (which == 3 && draw.nextInt(6) == 0) {
             due("blank()", x.blank(), m.blank());
             write();

@@ -147,7 +147,10 @@ public final class PromiseTest {
         }
         x.see(7, 0, true);
         x.image();
-        x.flatten();
+        for (int i = 0; i < 50; i++) {
+            x.flatten();
+        }
+        Check.holds("5: LOWEST is below 0", x.ledger(4) < 100000);
         Check.write(x, "35;1;");
         due("5: another shelf()", x.shelf(), 0);
         due("5: its digest()", x.digest(), mixed(NONE, 0, 0, 100000, 100000, 0, 0, 0, NONE, 0, NONE, 31, 0, 0, 3, 5, 1, 0, 0, 0, 2));
@@ -432,6 +435,7 @@ public final class PromiseTest {
         CreditShelf y = Check.shelfOf("45;1;n00=0,n01=0");
         due("16: the least, of like ones", y.dear(0), 2);
         due("16: nothing", y.dear(1), 0);
+        due("16: the least of all", Check.shelfOf("45;1;n50=0").dear(0), 0);
         CreditShelf z = forty();
         due("16: of 40", z.dear(0), NONE);
         due("16: of 40", z.dear(1), NONE);
@@ -566,6 +570,11 @@ public final class PromiseTest {
         due("22: SEED", x.drawn(1, MAX, 2), (1103515245L * MAX + 12345) % (1L << 31));
         due("22: PUT", x.drawn(1, 1, 1), 0);
         due("22: COST", x.drawn(1, 1, 0), 0);
+        long seed = 5;
+        for (int i = 0; i < 60; i++) {
+            seed = (1103515245L * seed + 12345) % (1L << 31);
+        }
+        due("22: SEED behind 60", x.drawn(60, 5, 2), seed);
         for (int[] row : new int[][] {{0, 0, 0}, {61, 0, 0}, {1, -1, 0}, {1, 0, -1}, {1, 0, 3}, {MIN, 0, 0}, {1, MIN, 0}, {1, 0, MAX}}) {
             due("22: drawn OUTSIDE", x.drawn(row[0], row[1], row[2]), OUTSIDE);
             due("22: OUTSIDE ahead of STATE", new CreditShelf().drawn(row[0], row[1], row[2]), OUTSIDE);
@@ -601,7 +610,10 @@ public final class PromiseTest {
         x.put(4, 10, 9);
         x.tell(20);
         x.tell(40);
-        x.flatten();
+        for (int i = 0; i < 20; i++) {
+            x.flatten();
+        }
+        Check.holds("24: LOWEST is below 0", x.ledger(4) < 100000);
         x.see(7, 1, true);
         Check.write(x, "ab");
         due("24: restore()", x.restore(), 4);
