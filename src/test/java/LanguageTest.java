@@ -7,6 +7,8 @@ import java.nio.file.Path;
 import java.util.ArrayList;
 import java.util.Arrays;
 import java.util.List;
+import java.util.Map;
+import java.util.TreeMap;
 import java.util.TreeSet;
 import java.util.regex.Matcher;
 import java.util.regex.Pattern;
@@ -14,6 +16,8 @@ import java.util.regex.Pattern;
 /** The document's face, and those rules of LANGUAGE.md that can be read off the file or the class. */
 public final class LanguageTest {
     private static final Path FILE = Path.of("src/main/java/CreditShelf.java");
+    private static final Path DOCUMENT = Path.of("../shared/DOC.md");
+    private static final int DEEPEST = 8;
 
     private static final String[] FACE = {"int letter(int)", "int blank()", "int fault()", "int shelf()", "int entry(int,int)",
         "int as(int,int)", "int at(int)", "int next(int)", "int put(int,int,int)", "int take(int)", "int tell(int)",
@@ -58,6 +62,7 @@ public final class LanguageTest {
             int bits = f.getModifiers();
             if (Modifier.isPublic(bits)) {
                 constants.add(f.getName());
+                Check.holds(f + " is an int", f.getType() == int.class);
                 Check.holds(f + " is a constant", Modifier.isStatic(bits) && Modifier.isFinal(bits));
             } else {
                 Check.holds(f + " is private", Modifier.isPrivate(bits));
@@ -69,6 +74,39 @@ public final class LanguageTest {
         Check.holds("one public constructor", made.length == 1 && Modifier.isPublic(made[0].getModifiers()));
         Check.holds("public and final", Modifier.isPublic(CreditShelf.class.getModifiers())
                 && Modifier.isFinal(CreditShelf.class.getModifiers()));
+    }
+
+    /** The face as the document has it, line by line and in its order, with the numbers of the constants. */
+    private static void faceOfTheDocument(String document, String source) {
+        int from = document.indexOf("public final class CreditShelf {");
+        Check.holds("the document has a face", from >= 0);
+        int place = 0;
+        for (String line : document.substring(Math.max(from, 0), document.indexOf("```", Math.max(from, 0))).split("\n")) {
+            String wanted = line.replaceFirst("\\);$", ") {").strip();
+            if (!wanted.equals("}")) {
+                int found = source.indexOf(wanted, place);
+                Check.holds("the file has, in the document's order: " + wanted, found >= place);
+                place = Math.max(found, place);
+            }
+        }
+    }
+
+    /** "Ahead of the calls ... the interface says: ---- the shelf", and so on. */
+    private static void headings(String document, String source) {
+        Matcher m = Pattern.compile("Ahead of the calls (`.*`) the interface says: (---- [a-z ]*)\\.").matcher(document);
+        int found = 0;
+        while (m.find()) {
+            found++;
+            int from = source.indexOf("// " + m.group(2) + "\n");
+            Check.holds("the file says " + m.group(2), from >= 0);
+            for (String name : m.group(1).replace("`", "").split(", ")) {
+                Matcher call = Pattern.compile("public (int|long) " + name + "\\(").matcher(source);
+                boolean there = call.find();
+                Check.holds(name + " stands behind " + m.group(2), there && call.start() > from
+                        && !source.substring(Math.max(from + 3, 0), call.start()).contains("// ----"));
+            }
+        }
+        Check.due("headings of the document", found, 5);
     }
 
     private static List<Class<?>> all() {
@@ -91,8 +129,64 @@ public final class LanguageTest {
             Check.holds(c + " has some twenty fields", fields <= 20);
             for (Method m : c.getDeclaredMethods()) {
                 Check.holds(m + " has seven parameters at most", m.getParameterCount() <= 7);
+                Check.holds(m + " is none of an object's own", !List.of("equals", "hashCode", "toString").contains(m.getName()));
             }
-            Check.holds(c + " is static", c == CreditShelf.class || Modifier.isStatic(c.getModifiers()));
+            if (c != CreditShelf.class) {
+                inside(c);
+            }
+        }
+    }
+
+    /** A class inside is static and not public, and no method of it bears the name of a public one. */
+    private static void inside(Class<?> c) {
+        int bits = c.getModifiers();
+        Check.holds(c + " is static", Modifier.isStatic(bits));
+        Check.holds(c + " is private or package-visible", !Modifier.isPublic(bits) && !Modifier.isProtected(bits));
+        for (Method m : c.getDeclaredMethods()) {
+            for (String face : FACE) {
+                Check.holds(m + " has a name of its own", !face.contains(" " + m.getName() + "("));
+            }
+        }
+    }
+
+    /** Which methods of the file each of its methods calls, by their names; like names count as one. */
+    private static Map<String, TreeSet<String>> callsOf(String code) {
+        Map<String, TreeSet<String>> calls = new TreeMap<>();
+        Map<String, String> bodies = new TreeMap<>();
+        Matcher m = Pattern.compile("(?ms)^( {4}| {8})(?:[a-z]+ )*?[a-z\\[\\]]+ (\\w+)\\([^)]*\\) \\{$(.*?)^\\1\\}").matcher(code);
+        while (m.find()) {
+            bodies.merge(m.group(2), m.group(3), String::concat);
+        }
+        for (String name : bodies.keySet()) {
+            TreeSet<String> called = new TreeSet<>();
+            Matcher call = Pattern.compile("\\b(\\w+)\\(").matcher(bodies.get(name));
+            while (call.find()) {
+                if (bodies.containsKey(call.group(1)) && !call.group(1).equals(name)) {
+                    called.add(call.group(1));
+                }
+            }
+            calls.put(name, called);
+        }
+        return calls;
+    }
+
+    /** How deep calls go from a method, itself with them; a ring of calls comes out far too deep. */
+    private static int deep(Map<String, TreeSet<String>> calls, String name, int above) {
+        int deepest = 1;
+        for (String called : calls.get(name)) {
+            if (above <= DEEPEST) {
+                deepest = Math.max(deepest, 1 + deep(calls, called, above + 1));
+            }
+        }
+        return deepest;
+    }
+
+    private static void callsAreNotTooDeep(String code) {
+        Map<String, TreeSet<String>> calls = callsOf(code);
+        for (String face : FACE) {
+            String name = face.substring(face.indexOf(' ') + 1, face.indexOf('('));
+            Check.holds("the file has " + name, calls.containsKey(name));
+            Check.holds(name + " goes eight deep at most", calls.containsKey(name) && deep(calls, name, 1) <= DEEPEST);
         }
     }
 
@@ -104,6 +198,10 @@ public final class LanguageTest {
     private static void source() throws Exception {
         String source = Files.readString(FILE);
         String code = bare(source);
+        String document = Files.readString(DOCUMENT);
+        faceOfTheDocument(document, source);
+        headings(document, source);
+        callsAreNotTooDeep(code);
         for (String forbidden : FORBIDDEN) {
             Matcher m = Pattern.compile(forbidden).matcher(code);
             Check.holds("the file has no " + forbidden, !m.find());
